@@ -954,6 +954,7 @@ public final class BarleyLine {
     private static final class Text {
         // Steps from 0 to 9999 are NUMBERS, steps below 0 are NAMES, steps from here on are signs.
         private static final int FIRST_SIGN = 10000;
+        private static final int NOT = FIRST_SIGN + '!';
 
         final int[] steps;
         int many;
@@ -1003,23 +1004,19 @@ public final class BarleyLine {
 
         int give(int first, int second, int third) {
             int top = -1;
-            for (int i = 0; i < many; i++) {
+            for (int i = 0; i < many && top < stack.length - 1; i++) {
                 int step = steps[i];
                 if (step < FIRST_SIGN) {
                     top++;
-                    if (top < stack.length) {
-                        stack[top] = step >= 0 ? step : step == -1 ? first : step == -2 ? second : third;
-                    }
-                } else if (step == FIRST_SIGN + '!') {
-                    if (top >= 0 && top < stack.length) {
-                        stack[top] = stack[top] == 0 ? 1 : 0;
-                    }
-                } else if (top >= 1 && top < stack.length) {
+                    stack[top] = step >= 0 ? step : step == -1 ? first : step == -2 ? second : third;
+                } else if (step == NOT && top >= 0) {
+                    stack[top] = stack[top] == 0 ? 1 : 0;
+                } else if (top >= 1) {
                     top--;
                     stack[top] = workOut(step - FIRST_SIGN, stack[top], stack[top + 1]);
                 }
             }
-            return top >= 0 && top < stack.length ? stack[top] : 0;
+            return top >= 0 ? stack[top] : 0;
         }
 
         private static int workOut(int sign, int left, int right) {
