@@ -152,7 +152,7 @@ public final class OracleTest {
             case "set1": return 1 + lot.nextInt(4);
             case "set2": return lot.nextInt(new int[] {1, 11, 61, 10001, 52}[Math.max(0, Math.min(4, before[1]))]);
             case "rule0": return lot.nextInt(4);
-            case "rule1": return lot.nextInt(new int[] {101, 102, 5, 11}[Math.max(0, Math.min(3, before[0]))]) - (before[0] == 2 ? 3 : 0);
+            case "rule1": return lot.nextInt(new int[] {101, 102, 8, 11}[Math.max(0, Math.min(3, before[0]))]) - (before[0] == 2 ? 3 : 0);
             case "yard0": case "sweep0": return lot.nextInt(61);
             case "deal0": return lot.nextInt(10);
             case "seed0": case "tell0": return lot.nextInt();
