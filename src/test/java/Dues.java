@@ -1,18 +1,43 @@
-/** What every test shares: it prints each answer that is not as due, and ends with exit code 1 if there was one. */
+/**
+ * What every test shares: it prints each answer that is not as due, and ends with exit code 1 if there was one; with 2 if
+ * it comes to no end, as no call may fail to end.
+ */
 final class Dues {
+    private static final long LONGEST = 300000;
+
     private final String test;
+    private volatile String sentence = "";
     private int asked;
     private int wrong;
 
     Dues(String test) {
         this.test = test;
+        Thread watch = new Thread(this::endAtLast);
+        watch.setDaemon(true);
+        watch.start();
+    }
+
+    private void endAtLast() {
+        try {
+            Thread.sleep(LONGEST);
+        } catch (InterruptedException e) {
+            return;
+        }
+        System.out.println(test + sentence + ": comes to no end");
+        System.out.flush();
+        Runtime.getRuntime().halt(2);
+    }
+
+    /** Begins the test of a sentence of the document: what is not as due from here on breaks it. */
+    void says(String words) {
+        sentence = " \"" + words + "\"";
     }
 
     void due(String call, long got, long want) {
         asked++;
         if (got != want) {
             wrong++;
-            System.out.println(test + ": " + call + " answered " + got + ", due is " + want);
+            System.out.println(test + sentence + ": " + call + " answered " + got + ", due is " + want);
         }
     }
 

