@@ -108,6 +108,22 @@ public final class LanguageTest {
             d.holds("import " + imports.group(1), LIBRARY.contains(imports.group(1)));
         }
         lengths(bare.split("\n"));
+        heads(source);
+    }
+
+    /** Ahead of which calls the interface says what, as the document has it. */
+    private static void heads(String source) {
+        Matcher found = Pattern.compile("// (---- .*)|public int (\\w+)\\(").matcher(source);
+        StringBuilder order = new StringBuilder();
+        while (found.find()) {
+            order.append(found.group(1) != null ? "\n" + found.group(1) + ":" : " " + found.group(2));
+        }
+        String[] said = {"---- mules, yards: mule told as turns set rule yard sweep rain deal seed", "---- minutes: minutes way",
+            "---- what will be: behind empty thickest patch pan whose fee fine", "---- texts: feed trim text textTold why",
+            "---- sheets, slots: sheet mark pour reads copy lay ask item rest", "---- rows, images: tell check keep back count"};
+        for (String head : said) {
+            d.holds(head, ("\n" + order + "\n").contains("\n" + head + "\n"));
+        }
     }
 
     private static void lengths(String[] lines) {
